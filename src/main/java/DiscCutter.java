@@ -1478,12 +1478,10 @@ public final class DiscCutter {
                 token = position - tokenAt > MOST_DIGITS ? NO_TOKEN : NUMBER;
             } else {
                 position++;
-                token = isSign(value) ? SIGN : NO_TOKEN;
+                boolean isSign = value == '{' || value == '}' || value == ';'
+                    || value == '<' || value == '>';
+                token = isSign ? SIGN : NO_TOKEN;
             }
-        }
-
-        private static boolean isSign(int c) {
-            return c == '{' || c == '}' || c == ';' || c == '<' || c == '>';
         }
 
         private boolean isWord(String word) {
@@ -1641,20 +1639,16 @@ public final class DiscCutter {
             } else if (isWord("parts") || isWord("room")) {
                 step.test = isWord("parts") ? Step.BY_PARTS : Step.BY_ROOM;
                 advance();
-                step.above = readAbove();
+                if (token != SIGN || value != '<' && value != '>') {
+                    misplaced();
+                    return;
+                }
+                step.above = value == '>';
+                advance();
                 step.number = readNumber(0, 9999);
             } else {
                 misplaced();
             }
-        }
-
-        private boolean readAbove() {
-            if (token == SIGN && value == '<') {
-                advance();
-                return false;
-            }
-            expect('>');
-            return true;
         }
 
         private void expect(char sign) {
