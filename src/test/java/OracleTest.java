@@ -231,7 +231,8 @@ public final class OracleTest {
     }
 
     private String name() {
-        return "" + (char) ('a' + upTo(random.nextInt(6) == 0 ? 9 : 3));
+        char first = (char) ('a' + upTo(random.nextInt(6) == 0 ? 4 : 1));
+        return random.nextBoolean() ? "" + first : "" + first + (char) ('a' + upTo(1));
     }
 
     private int number(int a, int b) {

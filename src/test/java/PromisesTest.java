@@ -184,6 +184,9 @@ public final class PromisesTest {
         Due.due("8 told(9, -1)", x, x.told(9, -1), -1, 1);
         Due.due("8 told(10, 0)", x, x.told(10, 0), -1, 1);
         Due.due("8 told(-1, 0)", x, x.told(-1, 0), -1, 1);
+        DiscCutter silent = new DiscCutter();
+        flat(silent, 0, 60, 0);
+        Due.due("8 a silent SONG", silent, silent.told(0, 2), 0, 0);
         x.write(0, 0, 3);
         Due.due("8 a SONG keeps its LEVELS", x.told(9, 2), 40);
     }
@@ -448,6 +451,7 @@ public final class PromisesTest {
         Due.due("26 an empty SIDE", x, x.ring(0, 0), -1, 6);
         Due.due("26 too short a SONG", x, x.ring(0, 1), -1, 1);
         Due.due("26 no such SONG", x, x.ring(0, 3), -1, 1);
+        Due.due("26 no such SONG", x, x.ring(0, -1), -1, 1);
         Due.due("26 no such SIDE", x, x.ring(2, 0), -1, 1);
         x.lay(0, 2);
         // PARTS 0 to 3 lie 8 ahead of the RING's last four: 30 and 5, and 4
@@ -455,6 +459,13 @@ public final class PromisesTest {
         x.lead(0, 5);
         // PART 8 lies at 34, ahead of the RING's last one: 0 and 8, and 4
         Due.due("26 nine PARTS", x, x.ring(0, 0), 46, 0);
+        x.anew(1);
+        x.lead(1, 1);
+        x.lay(1, 1);
+        song(x, 0, 40, 0, 0, 0, 0, 0, 0, 0);
+        song(x, 0, 0, 0, 0, 0, 0, 0, 0, 40);
+        Due.due("26 the RING's first PART: 0 and 40, and 4", x, x.ring(1, 3), 44, 0);
+        Due.due("26 the RING's last PART: 1 and 40, and 4", x, x.ring(1, 4), 45, 0);
         x.rules(4, 4);
         Due.due("26 it CAN'T be cut", x, x.ring(0, 0), -1, 5);
         x.anew(0);

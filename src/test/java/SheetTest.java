@@ -143,6 +143,15 @@ public final class SheetTest {
         Due.due("43 the tape is empty then, too", x, x.sheet(1), -1, 1);
         Due.due("44 fault(1)", x.fault(1), 12);
         Due.due("43 the SHEET stays", x, x.run(), 3, 0);
+        put(x, "lead 12; lead 1;");
+        Due.due("43 a NUMBER is cut where n is", x, x.sheet(6), -1, 9);
+        Due.due("44 the end", x.fault(1), 6);
+        put(x, "lead 12; lead 1;");
+        Due.due("43 a WORD is cut where n is", x, x.sheet(11), -1, 9);
+        Due.due("44 the WORD", x.fault(1), 9);
+        put(x, "mark a              ");
+        Due.due("43 blanks end where n is", x, x.sheet(8), -1, 9);
+        Due.due("44 the end", x.fault(1), 8);
         good("", 0);
         good("  \n ", 0);
         good("side 0;lead 1;song 9;lock 0;mark a;", 5);
@@ -178,6 +187,9 @@ public final class SheetTest {
         bad("|{}", 2);
         bad("|sid 1;", 2);
         bad("|sides 1;", 2);
+        bad("|xide 1;", 2);
+        bad("|sidx 1;", 2);
+        bad("song 1 |tom 1;", 2);
         bad("|else{}", 2);
         bad("|from 1;", 2);
         bad("side|", 2);
@@ -229,6 +241,8 @@ public final class SheetTest {
         good(eight + eight + "when have h{}", 17);
         bad(eight + "mark |i;", 3);
         bad(eight + "when have |i{}", 3);
+        good("mark ab;mark ac;mark bb;mark a;mark aa;mark aab;mark b;mark abb;mark ac;", 9);
+        bad("mark ab;mark ac;mark bb;mark a;mark aa;mark aab;mark b;mark abb;mark |acc;", 3);
         bad("when have z{}" + eight.substring(0, 49) + "mark |h;", 3);
     }
 
@@ -347,6 +361,14 @@ public final class SheetTest {
         Due.due("47 behind a new SHEET", x, x.mark(0, 0), -1, 6);
         x.run();
         Due.due("47 of an empty SIDE", x, x.mark(0, 1), 0, 0);
+        runs(x, "mark ab; lead 1; mark ac; lead 1; mark bc; lead 1; mark ab; when have bb {lead 9;}", 3);
+        Due.due("47 ab", x, x.mark(0, 1), 3, 0);
+        Due.due("47 ac", x, x.mark(1, 1), 1, 0);
+        Due.due("47 bc", x, x.mark(2, 1), 2, 0);
+        Due.due("47 bb has none", x, x.mark(3, 1), -1, 6);
+        runs(x, "when have a{}when have b{}when have c{}when have d{}when have e{}when have f{}when have g{}"
+            + "lead 5; mark h; when have h{lead 1;}", 6);
+        Due.due("47 the eighth NAME", x, x.mark(0, 1), 5, 0);
         runs(x, "lead 1;", 1);
         Due.due("47 none", x, x.mark(0, 0), -1, 6);
     }
@@ -371,6 +393,8 @@ public final class SheetTest {
         fails(x, "again 4 {lead 100;} lock 0; |lead 1;", 2);
         fails(x, "|lock 0;", 5);
         runs(x, "again 6 {song 2;} again 4 {song 0;}", 400);
+        runs(x, "again 6 {song 2;} again 3 {song 0;} lead 9; song 0 from 9;", 400);
+        fails(x, "again 6 {song 2;} again 3 {song 0;} lead 9; |song 0 from 8;", 3);
         runs(x, "again 4 {lead 100;} lock 0; side 1; lead 100;", 500);
         x.rules(20, 1);
         runs(x, "song 0; when parts > 3 {}", 10);
