@@ -1,8 +1,5 @@
 /** Each promise by its number: ordinary inputs, the edges that the document names, wrong inputs. */
 public final class PromisesTest {
-    private static final int FAR = Integer.MAX_VALUE;
-    private static final int DEEP = Integer.MIN_VALUE;
-
     public static void main(String[] args) {
         newObject();
         status();
@@ -34,22 +31,6 @@ public final class PromisesTest {
         missed();
         beside();
         Due.end();
-    }
-
-    // ---- what the runs are made of
-
-    private static int song(DiscCutter x, int high, int... levels) {
-        x.tray(3, 0, levels.length);
-        for (int k = 0; k < levels.length; k++) {
-            x.write(3, k, levels[k]);
-        }
-        return x.song(3, levels.length, high);
-    }
-
-    private static int flat(DiscCutter x, int high, int length, int level) {
-        int[] levels = new int[length];
-        java.util.Arrays.fill(levels, level);
-        return song(x, high, levels);
     }
 
     // ---- 1, 2
@@ -122,7 +103,7 @@ public final class PromisesTest {
         Due.due("4 write(0, 2, 1)", x, x.write(0, 2, 1), 3);
         Due.due("4 write(0, -1, 1)", x, x.write(0, -1, 1), 3);
         Due.due("5 read(0, 2)", x, x.read(0, 2), -1, 3);
-        Due.due("5 read(0, MIN)", x, x.read(0, DEEP), -1, 3);
+        Due.due("5 read(0, MIN)", x, x.read(0, Bench.DEEP), -1, 3);
         Due.due("5 read(4, 0)", x, x.read(4, 0), -1, 1);
     }
 
@@ -151,7 +132,7 @@ public final class PromisesTest {
         x.tray(1, 2, 2);
         Due.due("6 too few there", x, x.pour(0, 0, 1, 0, 3), 3);
         Due.due("6 too few here", x, x.pour(1, 0, 0, 0, 3), 3);
-        Due.due("6 great numbers", x, x.pour(0, FAR, 1, FAR, FAR), 3);
+        Due.due("6 great numbers", x, x.pour(0, Bench.FAR, 1, Bench.FAR, Bench.FAR), 3);
         Due.due("6 pour to another", x, x.pour(0, 2, 1, 0, 2), 0);
         Due.due("6 read(1, 0)", x.read(1, 0), 12);
     }
@@ -185,7 +166,7 @@ public final class PromisesTest {
         Due.due("8 told(10, 0)", x, x.told(10, 0), -1, 1);
         Due.due("8 told(-1, 0)", x, x.told(-1, 0), -1, 1);
         DiscCutter silent = new DiscCutter();
-        flat(silent, 0, 60, 0);
+        Bench.flat(silent, 0, 60, 0);
         Due.due("8 a silent SONG", silent, silent.told(0, 2), 0, 0);
         x.write(0, 0, 3);
         Due.due("8 a SONG keeps its LEVELS", x.told(9, 2), 40);
@@ -193,7 +174,7 @@ public final class PromisesTest {
 
     private static void rules() {
         DiscCutter x = new DiscCutter();
-        flat(x, 0, 9, 5);
+        Bench.flat(x, 0, 9, 5);
         x.lay(0, 0);
         Due.due("9 at first", x.place(0, 8), 14);
         Due.due("9 rules(20, 20)", x, x.rules(20, 20), 0);
@@ -212,7 +193,7 @@ public final class PromisesTest {
 
     private static void anew() {
         DiscCutter x = new DiscCutter();
-        flat(x, 0, 8, 5);
+        Bench.flat(x, 0, 8, 5);
         x.lay(1, 0);
         x.lock(1, 0);
         Due.due("10 anew(2)", x, x.anew(2), 1);
@@ -227,8 +208,8 @@ public final class PromisesTest {
 
     private static void leadAndLay() {
         DiscCutter x = new DiscCutter();
-        flat(x, 0, 60, 1);
-        song(x, 0, 1, 2, 3, 4, 5, 6, 7, 8);
+        Bench.flat(x, 0, 60, 1);
+        Bench.song(x, 0, 1, 2, 3, 4, 5, 6, 7, 8);
         Due.due("11 lead(2, 1)", x, x.lead(2, 1), 1);
         Due.due("11 lead(0, 0)", x, x.lead(0, 0), 1);
         Due.due("11 lead(0, 101)", x, x.lead(0, 101), 1);
@@ -254,7 +235,7 @@ public final class PromisesTest {
 
     private static void level() {
         DiscCutter x = new DiscCutter();
-        song(x, 0, 1, 2, 3, 40);
+        Bench.song(x, 0, 1, 2, 3, 40);
         x.lead(1, 2);
         x.lay(1, 0);
         int[] due = {0, 0, 1, 2, 3, 40};
@@ -271,7 +252,7 @@ public final class PromisesTest {
 
     private static void place() {
         DiscCutter x = new DiscCutter();
-        song(x, 0, 0, 0, 0, 0, 0, 0, 0, 0, 0, 0, 0, 40, 0, 0);
+        Bench.song(x, 0, 0, 0, 0, 0, 0, 0, 0, 0, 0, 0, 0, 40, 0, 0);
         x.lay(0, 0);
         x.rules(4, 6);
         // PART 11 must be 44 off PART 3: it pulls those ahead up, 6 at each
@@ -293,7 +274,7 @@ public final class PromisesTest {
         DiscCutter x = new DiscCutter();
         Due.due("16 room(0)", x, x.room(0), 0, 0);
         Due.due("16 room(2)", x, x.room(2), -1, 1);
-        song(x, 0, 9, 0, 0, 0, 0, 0, 0, 0, 1, 2);
+        Bench.song(x, 0, 9, 0, 0, 0, 0, 0, 0, 0, 1, 2);
         x.lay(0, 0);
         Due.due("16 room(0)", x, x.room(0), 16, 0);
         Due.due("17 tight(0, 0)", x, x.tight(0, 0), 8, 0);
@@ -311,7 +292,7 @@ public final class PromisesTest {
         Due.due("18 cannot(0)", x, x.cannot(0), -1, 6);
         Due.due("18 cannot(2)", x, x.cannot(2), -1, 1);
         Due.due("19 softer(-1)", x, x.softer(-1), -1, 1);
-        song(x, 0, 0, 0, 40, 0, 0, 0, 0, 0, 0, 0, 30, 0);
+        Bench.song(x, 0, 0, 0, 40, 0, 0, 0, 0, 0, 0, 0, 30, 0);
         x.lay(0, 0);
         x.rules(4, 9);
         Due.due("18 cannot(0)", x, x.cannot(0), 10, 0);
@@ -332,7 +313,7 @@ public final class PromisesTest {
 
     private static void soften() {
         DiscCutter x = new DiscCutter();
-        song(x, 0, 1, 2, 3, 4, 5, 6, 7, 8);
+        Bench.song(x, 0, 1, 2, 3, 4, 5, 6, 7, 8);
         x.lay(0, 0);
         x.lock(0, 0);
         int ring = x.ring(0, 0);
@@ -356,7 +337,7 @@ public final class PromisesTest {
         Due.due("21 most(0)", x, x.most(0), 1);
         Due.due("21 most(401)", x, x.most(401), 1);
         for (int k = 0; k < 7; k++) {
-            flat(x, 0, 60, 1);
+            Bench.flat(x, 0, 60, 1);
         }
         Due.due("21 at first 200: three on each", x, x.order(), -1, 5);
         Due.due("21 most(239)", x, x.most(239), 0);
@@ -376,9 +357,9 @@ public final class PromisesTest {
     private static void order() {
         DiscCutter x = new DiscCutter();
         Due.due("22 without SONGS", x, x.order(), 0, 0);
-        flat(x, 1, 10, 1);
-        flat(x, 3, 20, 1);
-        flat(x, 9, 30, 1);
+        Bench.flat(x, 1, 10, 1);
+        Bench.flat(x, 3, 20, 1);
+        Bench.flat(x, 9, 30, 1);
         // 1 by 10, 3 by 20, 9 by 30: 2 comes first, 1 ahead of 0
         Due.due("22 order()", x, x.order(), 20, 0);
         Due.due("23 sideOf(0)", x, x.sideOf(0), 0, 0);
@@ -393,7 +374,7 @@ public final class PromisesTest {
         Due.due("24 songAt(1, -1)", x, x.songAt(1, -1), -1, 6);
         x.most(30);
         Due.due("22 order() again", x, x.order(), 20, 0);
-        flat(x, 9, 1, 1);
+        Bench.flat(x, 9, 1, 1);
         Due.due("22 a SONG more is asked for", x, x.order(), -1, 5);
         x.most(31);
         // 3, 1, 0: 3 times 1 and 1 times 21; 2 alone
@@ -405,10 +386,10 @@ public final class PromisesTest {
 
     private static void orderOfEquals() {
         DiscCutter x = new DiscCutter();
-        flat(x, 2, 4, 1);
-        flat(x, 1, 2, 1);
-        flat(x, 0, 5, 1);
-        flat(x, 2, 4, 1);
+        Bench.flat(x, 2, 4, 1);
+        Bench.flat(x, 1, 2, 1);
+        Bench.flat(x, 0, 5, 1);
+        Bench.flat(x, 2, 4, 1);
         // 0, 1 and 3 have the like HIGH by PARTS
         Due.due("22 order()", x, x.order(), 4, 0);
         Due.due("23 SONG 0 on SIDE 0", x, x.sideOf(0), 0, 0);
@@ -422,9 +403,9 @@ public final class PromisesTest {
 
     private static void press() {
         DiscCutter x = new DiscCutter();
-        song(x, 1, 1, 2, 3, 4, 5, 6, 7, 8);
-        song(x, 9, 9, 8);
-        song(x, 9, 7);
+        Bench.song(x, 1, 1, 2, 3, 4, 5, 6, 7, 8);
+        Bench.song(x, 9, 9, 8);
+        Bench.song(x, 9, 7);
         x.lead(0, 5);
         x.lay(1, 0);
         x.lock(1, 0);
@@ -445,9 +426,9 @@ public final class PromisesTest {
 
     private static void ring() {
         DiscCutter x = new DiscCutter();
-        song(x, 0, 1, 2, 3, 4, 5, 6, 7, 8);
-        flat(x, 0, 7, 1);
-        song(x, 0, 30, 0, 0, 0);
+        Bench.song(x, 0, 1, 2, 3, 4, 5, 6, 7, 8);
+        Bench.flat(x, 0, 7, 1);
+        Bench.song(x, 0, 30, 0, 0, 0);
         Due.due("26 an empty SIDE", x, x.ring(0, 0), -1, 6);
         Due.due("26 too short a SONG", x, x.ring(0, 1), -1, 1);
         Due.due("26 no such SONG", x, x.ring(0, 3), -1, 1);
@@ -462,8 +443,8 @@ public final class PromisesTest {
         x.anew(1);
         x.lead(1, 1);
         x.lay(1, 1);
-        song(x, 0, 40, 0, 0, 0, 0, 0, 0, 0);
-        song(x, 0, 0, 0, 0, 0, 0, 0, 0, 40);
+        Bench.song(x, 0, 40, 0, 0, 0, 0, 0, 0, 0);
+        Bench.song(x, 0, 0, 0, 0, 0, 0, 0, 0, 40);
         Due.due("26 the RING's first PART: 0 and 40, and 4", x, x.ring(1, 3), 44, 0);
         Due.due("26 the RING's last PART: 1 and 40, and 4", x, x.ring(1, 4), 45, 0);
         x.rules(4, 4);
@@ -482,7 +463,7 @@ public final class PromisesTest {
         for (int beat = 0; beat < 10; beat++) {
             Due.due("27 inTime(" + beat + ")", x, x.inTime(beat), due[beat], due[beat] < 0 ? 1 : 0);
         }
-        Due.due("27 inTime(MIN)", x, x.inTime(DEEP), -1, 1);
+        Due.due("27 inTime(MIN)", x, x.inTime(Bench.DEEP), -1, 1);
     }
 
     // ---- 28 to 32
@@ -564,8 +545,8 @@ public final class PromisesTest {
 
     private static void lock() {
         DiscCutter x = new DiscCutter();
-        flat(x, 0, 8, 5);
-        flat(x, 0, 7, 5);
+        Bench.flat(x, 0, 8, 5);
+        Bench.flat(x, 0, 7, 5);
         Due.due("33 too short ahead of empty", x, x.lock(0, 1), 1);
         Due.due("33 an empty SIDE", x, x.lock(0, 0), 6);
         x.lay(0, 1);
@@ -603,7 +584,7 @@ public final class PromisesTest {
 
     private static void heard() {
         DiscCutter x = new DiscCutter();
-        flat(x, 0, 8, 0);
+        Bench.flat(x, 0, 8, 0);
         x.rules(10, 20);
         x.lead(0, 8);
         x.lay(0, 0);
@@ -642,8 +623,8 @@ public final class PromisesTest {
 
     private static void heardInRing() {
         DiscCutter x = new DiscCutter();
-        flat(x, 0, 8, 0);
-        flat(x, 0, 11, 0);
+        Bench.flat(x, 0, 8, 0);
+        Bench.flat(x, 0, 11, 0);
         x.rules(10, 20);
         x.lay(0, 1);
         x.lock(0, 0);
@@ -665,7 +646,7 @@ public final class PromisesTest {
         DiscCutter x = new DiscCutter();
         Due.due("39 missed(0) of an empty one", x, x.missed(0), 0, 0);
         Due.due("39 missed(2)", x, x.missed(2), -1, 1);
-        flat(x, 0, 8, 5);
+        Bench.flat(x, 0, 8, 5);
         for (int k = 0; k < 4; k++) {
             x.lay(1, 0);
         }
@@ -681,8 +662,8 @@ public final class PromisesTest {
 
     private static void beside() {
         DiscCutter x = new DiscCutter();
-        flat(x, 0, 9, 5);
-        flat(x, 0, 1, 40);
+        Bench.flat(x, 0, 9, 5);
+        Bench.flat(x, 0, 1, 40);
         Due.due("40 placeBeside(0, 0)", x, x.placeBeside(0, 0), -1, 1);
         Due.due("40 placeBeside(2, 0)", x, x.placeBeside(2, 0), -1, 1);
         x.lay(1, 1);

@@ -19,85 +19,6 @@ public final class SheetTest {
         Due.end();
     }
 
-    private static void put(DiscCutter x, String text) {
-        StringBuilder padded = new StringBuilder(text);
-        while (padded.length() % 20 != 0) {
-            padded.append('~');
-        }
-        for (int k = 0; k < padded.length(); k += 20) {
-            int[] v = new int[5];
-            for (int i = 0; i < 20; i++) {
-                v[i / 4] = v[i / 4] << 8 | padded.charAt(k + i);
-            }
-            x.feed(v[0], v[1], v[2], v[3], v[4]);
-        }
-    }
-
-    private static int read(DiscCutter x, String text) {
-        put(x, text);
-        return x.sheet(text.length());
-    }
-
-    private static void good(String text, int steps) {
-        DiscCutter x = new DiscCutter();
-        Due.due("sheet: " + text, x, read(x, text), steps, 0);
-        Due.due("fault(0): " + text, x.fault(0), 0);
-        Due.due("fault(1): " + text, x.fault(1), -1);
-    }
-
-    /** The FAULT stands where the mark | stands in the text. */
-    private static void bad(String marked, int kind) {
-        int at = marked.indexOf('|');
-        String text = marked.substring(0, at) + marked.substring(at + 1);
-        DiscCutter x = new DiscCutter();
-        Due.due("sheet: " + marked, x, read(x, text), -1, 9);
-        Due.due("fault(0): " + marked, x.fault(0), kind);
-        Due.due("fault(1): " + marked, x.fault(1), at);
-    }
-
-    private static String times(String text, int many) {
-        return text.repeat(many);
-    }
-
-    private static DiscCutter withSongs() {
-        DiscCutter x = new DiscCutter();
-        x.tray(0, 0, 60);
-        for (int k = 0; k < 60; k++) {
-            x.write(0, k, k % 10 + 1);
-        }
-        x.song(0, 10, 1);
-        x.song(0, 7, 1);
-        x.song(0, 60, 1);
-        return x;
-    }
-
-    private static void levels(DiscCutter x, int side, int... due) {
-        Due.due("parts(" + side + ")", x.parts(side), due.length);
-        for (int k = 0; k < due.length; k++) {
-            Due.due("level(" + side + ", " + k + ")", x.level(side, k), due[k]);
-        }
-    }
-
-    private static void runs(DiscCutter x, String text, int parts) {
-        int steps = read(x, text);
-        Due.due("a SHEET: " + text, x.status(), 0);
-        Due.due("its STEPS are some: " + text, steps >= 0 ? 1 : 0, 1);
-        Due.due("run: " + text, x, x.run(), parts, 0);
-        Due.due("error(0): " + text, x.error(0), 0);
-        Due.due("error(1): " + text, x.error(1), -1);
-    }
-
-    /** The ERROR is of the STEP behind the mark | in the text. */
-    private static void fails(DiscCutter x, String marked, int kind) {
-        int at = marked.indexOf('|');
-        String text = marked.substring(0, at) + marked.substring(at + 1);
-        read(x, text);
-        Due.due("a SHEET: " + marked, x.status(), 0);
-        Due.due("run: " + marked, x, x.run(), -1, 10);
-        Due.due("error(0): " + marked, x.error(0), kind);
-        Due.due("error(1): " + marked, x.error(1), at);
-    }
-
     // ---- 42 to 44
 
     private static void feed() {
@@ -136,151 +57,151 @@ public final class SheetTest {
         Due.due("44 fault(-1)", x.fault(-1), -1);
         Due.due("45 run()", x, x.run(), 0, 0);
         Due.due("46 error(0)", x.error(0), 0);
-        read(x, "lead 3;");
+        Bench.sheet(x, "lead 3;");
         Due.due("43 the tape is empty then", x, x.sheet(1), -1, 1);
-        put(x, "lead 4; lead;");
+        Bench.put(x, "lead 4; lead;");
         Due.due("43 a FAULT", x, x.sheet(13), -1, 9);
         Due.due("43 the tape is empty then, too", x, x.sheet(1), -1, 1);
         Due.due("44 fault(1)", x.fault(1), 12);
         Due.due("43 the SHEET stays", x, x.run(), 3, 0);
-        put(x, "lead 12; lead 1;");
+        Bench.put(x, "lead 12; lead 1;");
         Due.due("43 a NUMBER is cut where n is", x, x.sheet(6), -1, 9);
         Due.due("44 the end", x.fault(1), 6);
-        put(x, "lead 12; lead 1;");
+        Bench.put(x, "lead 12; lead 1;");
         Due.due("43 a WORD is cut where n is", x, x.sheet(11), -1, 9);
         Due.due("44 the WORD", x.fault(1), 9);
-        put(x, "mark a              ");
+        Bench.put(x, "mark a              ");
         Due.due("43 blanks end where n is", x, x.sheet(8), -1, 9);
         Due.due("44 the end", x.fault(1), 8);
-        good("", 0);
-        good("  \n ", 0);
-        good("side 0;lead 1;song 9;lock 0;mark a;", 5);
-        good("side\n1\n;", 1);
-        good("side0001;lead0100;", 2);
-        good("song 3 from 0 to 60 soft 40 fade 60;", 1);
-        good("song 3fade1soft0to1from59;", 1);
-        good("again 9{lead 1;again 0{}}", 3);
-        good("when parts<9999{}else{side 1;}", 2);
-        good("when room>0{lead 2;}", 2);
-        good("when have abcdefgh{mark abcdefgh;}else{mark mark;}mark else;", 4);
-        good("when have else{}else{}", 1);
+        Texts.good("", 0);
+        Texts.good("  \n ", 0);
+        Texts.good("side 0;lead 1;song 9;lock 0;mark a;", 5);
+        Texts.good("side\n1\n;", 1);
+        Texts.good("side0001;lead0100;", 2);
+        Texts.good("song 3 from 0 to 60 soft 40 fade 60;", 1);
+        Texts.good("song 3fade1soft0to1from59;", 1);
+        Texts.good("again 9{lead 1;again 0{}}", 3);
+        Texts.good("when parts<9999{}else{side 1;}", 2);
+        Texts.good("when room>0{lead 2;}", 2);
+        Texts.good("when have abcdefgh{mark abcdefgh;}else{mark mark;}mark else;", 4);
+        Texts.good("when have else{}else{}", 1);
     }
 
     private static void faultsOfTokens() {
-        bad("|#", 1);
-        bad("lead |A", 1);
-        bad("lead 1|.", 1);
-        bad("lead |12345;", 1);
-        bad("|00000", 1);
-        bad("lead 1;\n |\t", 1);
-        bad("side|D 1;", 1);
-        bad("mark |12345", 1);
-        bad("when parts |=", 1);
-        bad("when parts<1{}|!", 1);
-        bad("|-1", 1);
+        Texts.bad("|#", 1);
+        Texts.bad("lead |A", 1);
+        Texts.bad("lead 1|.", 1);
+        Texts.bad("lead |12345;", 1);
+        Texts.bad("|00000", 1);
+        Texts.bad("lead 1;\n |\t", 1);
+        Texts.bad("side|D 1;", 1);
+        Texts.bad("mark |12345", 1);
+        Texts.bad("when parts |=", 1);
+        Texts.bad("when parts<1{}|!", 1);
+        Texts.bad("|-1", 1);
     }
 
     private static void faultsOfStanding() {
-        bad("|;", 2);
-        bad("|12", 2);
-        bad("|}", 2);
-        bad("|{}", 2);
-        bad("|sid 1;", 2);
-        bad("|sides 1;", 2);
-        bad("|xide 1;", 2);
-        bad("|sidx 1;", 2);
-        bad("song 1 |tom 1;", 2);
-        bad("|else{}", 2);
-        bad("|from 1;", 2);
-        bad("side|", 2);
-        bad("side  |", 2);
-        bad("side |one;", 2);
-        bad("side 1|", 2);
-        bad("side 1 |1;", 2);
-        bad("lead 1|<", 2);
-        bad("mark |;", 2);
-        bad("mark |1;", 2);
-        bad("mark |abcdefghi;", 2);
-        bad("mark ab|1;", 2);
-        bad("|siDe 1;", 2);
-        bad("lock 1 |from 1;", 2);
-        bad("song 1 |side 1;", 2);
-        bad("song 1 from |;", 2);
-        bad("song 1 from 1 |2;", 2);
-        bad("song 1 |", 2);
-        bad("again 1 |;", 2);
-        bad("again 1 {|", 2);
-        bad("again 1 {lead 1;|", 2);
-        bad("again 1 {}|}", 2);
-        bad("again 1 {} |else {}", 2);
-        bad("again 1 {|{}}", 2);
-        bad("when |{}", 2);
-        bad("when |mark a{}", 2);
-        bad("when parts |1{}", 2);
-        bad("when parts <|{}", 2);
-        bad("when parts <1 |side 1;", 2);
-        bad("when have |1{}", 2);
-        bad("when have |{}", 2);
-        bad("when have |abcdefghi{}", 2);
-        bad("when have a{}else |side 1;", 2);
-        bad("when have a{}else{}|else{}", 2);
-        bad("when have a{}else|", 2);
-        bad("when parts |have", 2);
+        Texts.bad("|;", 2);
+        Texts.bad("|12", 2);
+        Texts.bad("|}", 2);
+        Texts.bad("|{}", 2);
+        Texts.bad("|sid 1;", 2);
+        Texts.bad("|sides 1;", 2);
+        Texts.bad("|xide 1;", 2);
+        Texts.bad("|sidx 1;", 2);
+        Texts.bad("song 1 |tom 1;", 2);
+        Texts.bad("|else{}", 2);
+        Texts.bad("|from 1;", 2);
+        Texts.bad("side|", 2);
+        Texts.bad("side  |", 2);
+        Texts.bad("side |one;", 2);
+        Texts.bad("side 1|", 2);
+        Texts.bad("side 1 |1;", 2);
+        Texts.bad("lead 1|<", 2);
+        Texts.bad("mark |;", 2);
+        Texts.bad("mark |1;", 2);
+        Texts.bad("mark |abcdefghi;", 2);
+        Texts.bad("mark ab|1;", 2);
+        Texts.bad("|siDe 1;", 2);
+        Texts.bad("lock 1 |from 1;", 2);
+        Texts.bad("song 1 |side 1;", 2);
+        Texts.bad("song 1 from |;", 2);
+        Texts.bad("song 1 from 1 |2;", 2);
+        Texts.bad("song 1 |", 2);
+        Texts.bad("again 1 |;", 2);
+        Texts.bad("again 1 {|", 2);
+        Texts.bad("again 1 {lead 1;|", 2);
+        Texts.bad("again 1 {}|}", 2);
+        Texts.bad("again 1 {} |else {}", 2);
+        Texts.bad("again 1 {|{}}", 2);
+        Texts.bad("when |{}", 2);
+        Texts.bad("when |mark a{}", 2);
+        Texts.bad("when parts |1{}", 2);
+        Texts.bad("when parts <|{}", 2);
+        Texts.bad("when parts <1 |side 1;", 2);
+        Texts.bad("when have |1{}", 2);
+        Texts.bad("when have |{}", 2);
+        Texts.bad("when have |abcdefghi{}", 2);
+        Texts.bad("when have a{}else |side 1;", 2);
+        Texts.bad("when have a{}else{}|else{}", 2);
+        Texts.bad("when have a{}else|", 2);
+        Texts.bad("when parts |have", 2);
     }
 
     private static void faultsOfLimits() {
-        good(times("side 0;", 60), 60);
-        bad(times("side 0;", 60) + "|lead 1;", 3);
-        bad(times("side 0;", 60) + "|what", 2);
-        good(times("again 1{", 4) + times("}", 4), 4);
-        bad(times("again 1{", 4) + "|side 0;" + times("}", 4), 3);
-        bad(times("when have a{", 4) + "|side", 3);
-        bad(times("when have a{", 3) + "when have a{}else{|lead 0", 3);
-        bad(times("again 1{", 4) + "|;", 2);
+        Texts.good(Texts.times("side 0;", 60), 60);
+        Texts.bad(Texts.times("side 0;", 60) + "|lead 1;", 3);
+        Texts.bad(Texts.times("side 0;", 60) + "|what", 2);
+        Texts.good(Texts.times("again 1{", 4) + Texts.times("}", 4), 4);
+        Texts.bad(Texts.times("again 1{", 4) + "|side 0;" + Texts.times("}", 4), 3);
+        Texts.bad(Texts.times("when have a{", 4) + "|side", 3);
+        Texts.bad(Texts.times("when have a{", 3) + "when have a{}else{|lead 0", 3);
+        Texts.bad(Texts.times("again 1{", 4) + "|;", 2);
         String eight = "mark a;mark b;mark c;mark d;mark e;mark f;mark g;mark h;";
-        good(eight + eight + "when have h{}", 17);
-        bad(eight + "mark |i;", 3);
-        bad(eight + "when have |i{}", 3);
-        good("mark ab;mark ac;mark bb;mark a;mark aa;mark aab;mark b;mark abb;mark ac;", 9);
-        bad("mark ab;mark ac;mark bb;mark a;mark aa;mark aab;mark b;mark abb;mark |acc;", 3);
-        bad("when have z{}" + eight.substring(0, 49) + "mark |h;", 3);
+        Texts.good(eight + eight + "when have h{}", 17);
+        Texts.bad(eight + "mark |i;", 3);
+        Texts.bad(eight + "when have |i{}", 3);
+        Texts.good("mark ab;mark ac;mark bb;mark a;mark aa;mark aab;mark b;mark abb;mark ac;", 9);
+        Texts.bad("mark ab;mark ac;mark bb;mark a;mark aa;mark aab;mark b;mark abb;mark |acc;", 3);
+        Texts.bad("when have z{}" + eight.substring(0, 49) + "mark |h;", 3);
     }
 
     private static void faultsOfNumbers() {
-        bad("side |2;", 4);
-        bad("lead |0;", 4);
-        bad("lead |101;", 4);
-        bad("song |10;", 4);
-        bad("lock |10;", 4);
-        bad("again |10{}", 4);
-        bad("song 0 from |60;", 4);
-        bad("song 0 to |0;", 4);
-        bad("song 0 to |61;", 4);
-        bad("song 0 soft |41;", 4);
-        bad("song 0 fade |0;", 4);
-        bad("song 0 fade |61;", 4);
-        bad("lead |9999 lead", 4);
-        good("when room<0{}when parts>9999{}", 2);
+        Texts.bad("side |2;", 4);
+        Texts.bad("lead |0;", 4);
+        Texts.bad("lead |101;", 4);
+        Texts.bad("song |10;", 4);
+        Texts.bad("lock |10;", 4);
+        Texts.bad("again |10{}", 4);
+        Texts.bad("song 0 from |60;", 4);
+        Texts.bad("song 0 to |0;", 4);
+        Texts.bad("song 0 to |61;", 4);
+        Texts.bad("song 0 soft |41;", 4);
+        Texts.bad("song 0 fade |0;", 4);
+        Texts.bad("song 0 fade |61;", 4);
+        Texts.bad("lead |9999 lead", 4);
+        Texts.good("when room<0{}when parts>9999{}", 2);
     }
 
     private static void faultsTwice() {
-        bad("song 0 from 1 |from 1;", 5);
-        bad("song 0 to 1 soft 0 fade 1 |to 99;", 5);
-        bad("song 0 from 1 to 2 soft 3 fade 4 |soft", 5);
-        bad("song 0 fade 1 |fade #", 5);
-        bad("song 0 from |99 from 1;", 4);
+        Texts.bad("song 0 from 1 |from 1;", 5);
+        Texts.bad("song 0 to 1 soft 0 fade 1 |to 99;", 5);
+        Texts.bad("song 0 from 1 to 2 soft 3 fade 4 |soft", 5);
+        Texts.bad("song 0 fade 1 |fade #", 5);
+        Texts.bad("song 0 from |99 from 1;", 4);
     }
 
     // ---- 45, 46
 
     private static void lay() {
-        DiscCutter x = withSongs();
+        DiscCutter x = Texts.withSongs();
         x.lead(0, 30);
         x.lay(1, 0);
         x.lock(1, 0);
-        runs(x, "side 1; lead 2; song 1; side 0; song 0; lock 0; side 1; lead 1;", 20);
-        levels(x, 0, 1, 2, 3, 4, 5, 6, 7, 8, 9, 10);
-        levels(x, 1, 0, 0, 1, 2, 3, 4, 5, 6, 7, 0);
+        Texts.runs(x, "side 1; lead 2; song 1; side 0; song 0; lock 0; side 1; lead 1;", 20);
+        Texts.levels(x, 0, 1, 2, 3, 4, 5, 6, 7, 8, 9, 10);
+        Texts.levels(x, 1, 0, 0, 1, 2, 3, 4, 5, 6, 7, 0);
         Due.due("45 locked(0)", x, x.locked(0), 0, 0);
         Due.due("45 locked(1)", x, x.locked(1), -1, 6);
         Due.due("38 a LEAD PART", x, x.songHeard(1, 0), -1, 0);
@@ -288,64 +209,64 @@ public final class SheetTest {
         Due.due("46 error(2)", x.error(2), -1);
         Due.due("46 error(-1)", x.error(-1), -1);
         Due.due("45 again the same", x, x.run(), 20, 0);
-        runs(x, "", 0);
+        Texts.runs(x, "", 0);
     }
 
     private static void options() {
-        DiscCutter x = withSongs();
-        runs(x, "song 0 from 3 to 6;", 3);
-        levels(x, 0, 4, 5, 6);
-        runs(x, "song 0 from 9;", 1);
-        levels(x, 0, 10);
-        runs(x, "song 0 to 1;", 1);
-        runs(x, "song 0 soft 4;", 10);
-        levels(x, 0, 1, 2, 3, 4, 4, 4, 4, 4, 4, 4);
-        runs(x, "song 0 fade 3;", 10);
-        levels(x, 0, 1, 2, 3, 4, 5, 6, 7, 8 * 3 / 4, 9 * 2 / 4, 10 / 4);
-        runs(x, "song 0 fade 60 from 7;", 3);
-        levels(x, 0, 8 * 3 / 61, 9 * 2 / 61, 10 / 61);
-        runs(x, "song 0 from 6 to 9 fade 2 soft 8;", 3);
-        levels(x, 0, 7, 8 * 2 / 3, 8 / 3);
-        runs(x, "song 0 from 8 soft 0;", 2);
-        levels(x, 0, 0, 0);
+        DiscCutter x = Texts.withSongs();
+        Texts.runs(x, "song 0 from 3 to 6;", 3);
+        Texts.levels(x, 0, 4, 5, 6);
+        Texts.runs(x, "song 0 from 9;", 1);
+        Texts.levels(x, 0, 10);
+        Texts.runs(x, "song 0 to 1;", 1);
+        Texts.runs(x, "song 0 soft 4;", 10);
+        Texts.levels(x, 0, 1, 2, 3, 4, 4, 4, 4, 4, 4, 4);
+        Texts.runs(x, "song 0 fade 3;", 10);
+        Texts.levels(x, 0, 1, 2, 3, 4, 5, 6, 7, 8 * 3 / 4, 9 * 2 / 4, 10 / 4);
+        Texts.runs(x, "song 0 fade 60 from 7;", 3);
+        Texts.levels(x, 0, 8 * 3 / 61, 9 * 2 / 61, 10 / 61);
+        Texts.runs(x, "song 0 from 6 to 9 fade 2 soft 8;", 3);
+        Texts.levels(x, 0, 7, 8 * 2 / 3, 8 / 3);
+        Texts.runs(x, "song 0 from 8 soft 0;", 2);
+        Texts.levels(x, 0, 0, 0);
         Due.due("38 soft, but of the SONG", x, x.songHeard(0, 0), 0, 0);
     }
 
     private static void repeat() {
-        DiscCutter x = withSongs();
-        runs(x, "again 3 {lead 2; again 2 {side 1; lead 1;} side 0;}", 12);
+        DiscCutter x = Texts.withSongs();
+        Texts.runs(x, "again 3 {lead 2; again 2 {side 1; lead 1;} side 0;}", 12);
         Due.due("parts(0)", x.parts(0), 6);
         Due.due("parts(1)", x.parts(1), 6);
-        runs(x, "again 0 {song 9;} lead 1;", 1);
-        runs(x, "again 9 {again 9 {again 9 {again 9 {}}}}", 0);
+        Texts.runs(x, "again 0 {song 9;} lead 1;", 1);
+        Texts.runs(x, "again 9 {again 9 {again 9 {again 9 {}}}}", 0);
     }
 
     private static int roomOfSong0() {
-        DiscCutter x = withSongs();
+        DiscCutter x = Texts.withSongs();
         x.lay(0, 0);
         return x.room(0);
     }
 
     private static void choose() {
-        DiscCutter x = withSongs();
-        runs(x, "lead 5; when parts > 5 {lead 10;} else {lead 20;}", 25);
-        runs(x, "lead 5; when parts < 6 {lead 10;} else {lead 20;}", 15);
-        runs(x, "lead 5; when parts < 5 {lead 10;}", 5);
-        runs(x, "lead 5; side 1; when parts < 1 {lead 10;}", 15);
-        runs(x, "song 0; when room > 15 {lead 1;}", 11);
-        runs(x, "song 0; when room < " + roomOfSong0() + "{} else {lead 1;}", 11);
-        runs(x, "song 0; when room > " + roomOfSong0() + "{} else {lead 1;}", 11);
-        runs(x, "song 0; when room < " + (roomOfSong0() + 1) + "{lead 1;}", 11);
-        runs(x, "when room < 1 {lead 1;}", 1);
-        runs(x, "when have a {lead 1;} else {lead 2;} mark a; when have a {lead 4;}", 6);
-        runs(x, "when parts > 9 {} else {when have b {} else {lead 7;}}", 7);
+        DiscCutter x = Texts.withSongs();
+        Texts.runs(x, "lead 5; when parts > 5 {lead 10;} else {lead 20;}", 25);
+        Texts.runs(x, "lead 5; when parts < 6 {lead 10;} else {lead 20;}", 15);
+        Texts.runs(x, "lead 5; when parts < 5 {lead 10;}", 5);
+        Texts.runs(x, "lead 5; side 1; when parts < 1 {lead 10;}", 15);
+        Texts.runs(x, "song 0; when room > 15 {lead 1;}", 11);
+        Texts.runs(x, "song 0; when room < " + roomOfSong0() + "{} else {lead 1;}", 11);
+        Texts.runs(x, "song 0; when room > " + roomOfSong0() + "{} else {lead 1;}", 11);
+        Texts.runs(x, "song 0; when room < " + (roomOfSong0() + 1) + "{lead 1;}", 11);
+        Texts.runs(x, "when room < 1 {lead 1;}", 1);
+        Texts.runs(x, "when have a {lead 1;} else {lead 2;} mark a; when have a {lead 4;}", 6);
+        Texts.runs(x, "when parts > 9 {} else {when have b {} else {lead 7;}}", 7);
     }
 
     // ---- 47
 
     private static void marks() {
-        DiscCutter x = withSongs();
-        runs(x, "when have c {mark b;} lead 3; mark a; side 1; lead 4; mark c; lead 1; mark a;", 8);
+        DiscCutter x = Texts.withSongs();
+        Texts.runs(x, "when have c {mark b;} lead 3; mark a; side 1; lead 4; mark c; lead 1; mark a;", 8);
         Due.due("47 c stands first", x, x.mark(0, 0), 1, 0);
         Due.due("47 its PARTS", x, x.mark(0, 1), 4, 0);
         Due.due("47 a, the latest", x, x.mark(1, 0), 1, 0);
@@ -355,72 +276,72 @@ public final class SheetTest {
         Due.due("47 mark(0, 2)", x, x.mark(0, 2), -1, 1);
         Due.due("47 mark(9, -1)", x, x.mark(9, -1), -1, 1);
         Due.due("47 mark(MAX, 0)", x, x.mark(Integer.MAX_VALUE, 0), -1, 6);
-        read(x, "lead #");
+        Bench.sheet(x, "lead #");
         Due.due("47 behind a FAULT", x, x.mark(1, 1), 5, 0);
-        read(x, "mark q;");
+        Bench.sheet(x, "mark q;");
         Due.due("47 behind a new SHEET", x, x.mark(0, 0), -1, 6);
         x.run();
         Due.due("47 of an empty SIDE", x, x.mark(0, 1), 0, 0);
-        runs(x, "mark ab; lead 1; mark ac; lead 1; mark bc; lead 1; mark ab; when have bb {lead 9;}", 3);
+        Texts.runs(x, "mark ab; lead 1; mark ac; lead 1; mark bc; lead 1; mark ab; when have bb {lead 9;}", 3);
         Due.due("47 ab", x, x.mark(0, 1), 3, 0);
         Due.due("47 ac", x, x.mark(1, 1), 1, 0);
         Due.due("47 bc", x, x.mark(2, 1), 2, 0);
         Due.due("47 bb has none", x, x.mark(3, 1), -1, 6);
-        runs(x, "when have a{}when have b{}when have c{}when have d{}when have e{}when have f{}when have g{}"
+        Texts.runs(x, "when have a{}when have b{}when have c{}when have d{}when have e{}when have f{}when have g{}"
             + "lead 5; mark h; when have h{lead 1;}", 6);
         Due.due("47 the eighth NAME", x, x.mark(0, 1), 5, 0);
-        runs(x, "lead 1;", 1);
+        Texts.runs(x, "lead 1;", 1);
         Due.due("47 none", x, x.mark(0, 0), -1, 6);
     }
 
     private static void errors() {
-        DiscCutter x = withSongs();
-        fails(x, "|song 3;", 1);
-        fails(x, "lead 1; |song 0 from 5 to 5;", 1);
-        fails(x, "lead 1; |song 0 from 6 to 5;", 1);
-        fails(x, "|song 0 to 11;", 1);
-        fails(x, "|song 0 from 10;", 1);
-        fails(x, "lead 1;|lock 3;", 1);
-        fails(x, "lead 1;|lock 1;", 1);
-        fails(x, "|lock 1;", 1);
-        fails(x, "lead 1; lock 0; |lead 1;", 2);
-        fails(x, "lead 1; lock 0; |song 0;", 2);
-        fails(x, "lead 1; lock 0; |song 3;", 1);
-        fails(x, "lead 1; lock 0; |lock 0;", 2);
-        fails(x, "again 2 {|lead 1; lead 100; lead 99; lock 0;}", 2);
-        fails(x, "again 4 {lead 100;} |lead 1;", 3);
-        fails(x, "again 7 {|song 2;}", 3);
-        fails(x, "again 4 {lead 100;} lock 0; |lead 1;", 2);
-        fails(x, "|lock 0;", 5);
-        runs(x, "again 6 {song 2;} again 4 {song 0;}", 400);
-        runs(x, "again 6 {song 2;} again 3 {song 0;} lead 9; song 0 from 9;", 400);
-        fails(x, "again 6 {song 2;} again 3 {song 0;} lead 9; |song 0 from 8;", 3);
-        runs(x, "again 4 {lead 100;} lock 0; side 1; lead 100;", 500);
+        DiscCutter x = Texts.withSongs();
+        Texts.fails(x, "|song 3;", 1);
+        Texts.fails(x, "lead 1; |song 0 from 5 to 5;", 1);
+        Texts.fails(x, "lead 1; |song 0 from 6 to 5;", 1);
+        Texts.fails(x, "|song 0 to 11;", 1);
+        Texts.fails(x, "|song 0 from 10;", 1);
+        Texts.fails(x, "lead 1;|lock 3;", 1);
+        Texts.fails(x, "lead 1;|lock 1;", 1);
+        Texts.fails(x, "|lock 1;", 1);
+        Texts.fails(x, "lead 1; lock 0; |lead 1;", 2);
+        Texts.fails(x, "lead 1; lock 0; |song 0;", 2);
+        Texts.fails(x, "lead 1; lock 0; |song 3;", 1);
+        Texts.fails(x, "lead 1; lock 0; |lock 0;", 2);
+        Texts.fails(x, "again 2 {|lead 1; lead 100; lead 99; lock 0;}", 2);
+        Texts.fails(x, "again 4 {lead 100;} |lead 1;", 3);
+        Texts.fails(x, "again 7 {|song 2;}", 3);
+        Texts.fails(x, "again 4 {lead 100;} lock 0; |lead 1;", 2);
+        Texts.fails(x, "|lock 0;", 5);
+        Texts.runs(x, "again 6 {song 2;} again 4 {song 0;}", 400);
+        Texts.runs(x, "again 6 {song 2;} again 3 {song 0;} lead 9; song 0 from 9;", 400);
+        Texts.fails(x, "again 6 {song 2;} again 3 {song 0;} lead 9; |song 0 from 8;", 3);
+        Texts.runs(x, "again 4 {lead 100;} lock 0; side 1; lead 100;", 500);
         x.rules(20, 1);
-        runs(x, "song 0; when parts > 3 {}", 10);
-        fails(x, "song 0; side 1; when room < 1 {side 0;} |when room > 3 {}", 4);
+        Texts.runs(x, "song 0; when parts > 3 {}", 10);
+        Texts.fails(x, "song 0; side 1; when room < 1 {side 0;} |when room > 3 {}", 4);
         x.rules(4, 8);
         Due.due("46 of the latest run()", x.error(0), 4);
-        runs(x, "song 0; when room > 3 {}", 10);
+        Texts.runs(x, "song 0; when room > 3 {}", 10);
     }
 
     private static void tooManySteps() {
-        DiscCutter x = withSongs();
+        DiscCutter x = Texts.withSongs();
         String thousand = "again 9{again 9{again 9{side 0;}side 1;}}again 9{again 7{side 1;}}";
         // 1, 9, 81, 729, 81; 1, 9, 63: 974 in all
-        runs(x, thousand + times("side 0;", 26), 0);
-        fails(x, thousand + times("side 0;", 26) + "|side 0;", 6);
-        fails(x, thousand + times("side 0;", 26) + "|lead 1;", 6);
-        fails(x, thousand + times("side 0;", 26) + "|again 0{}", 6);
-        fails(x, thousand + times("side 0;", 26) + "|song 3;", 1);
-        fails(x, thousand + times("side 0;", 26) + "|lock 0;", 5);
-        fails(x, "again 9{again 9{again 9{|side 0;side 1;}}}", 6);
+        Texts.runs(x, thousand + Texts.times("side 0;", 26), 0);
+        Texts.fails(x, thousand + Texts.times("side 0;", 26) + "|side 0;", 6);
+        Texts.fails(x, thousand + Texts.times("side 0;", 26) + "|lead 1;", 6);
+        Texts.fails(x, thousand + Texts.times("side 0;", 26) + "|again 0{}", 6);
+        Texts.fails(x, thousand + Texts.times("side 0;", 26) + "|song 3;", 1);
+        Texts.fails(x, thousand + Texts.times("side 0;", 26) + "|lock 0;", 5);
+        Texts.fails(x, "again 9{again 9{again 9{|side 0;side 1;}}}", 6);
     }
 
     private static void putBack() {
-        DiscCutter x = withSongs();
+        DiscCutter x = Texts.withSongs();
         String text = "mark a; lead 9; when room > 0 {mark b; lead 1;}";
-        runs(x, text, 10);
+        Texts.runs(x, text, 10);
         x.anew(0);
         x.lay(0, 0);
         x.lock(0, 0);
@@ -433,8 +354,8 @@ public final class SheetTest {
         Due.due("47 MARKS as they were", x, x.mark(1, 1), 9, 0);
         x.rules(4, 8);
         Due.due("45 locked(0)", x, x.locked(0), 0, 0);
-        levels(x, 0, 1, 2, 3, 4, 5, 6, 7, 8, 9, 10);
-        levels(x, 1, 0, 0, 0);
+        Texts.levels(x, 0, 1, 2, 3, 4, 5, 6, 7, 8, 9, 10);
+        Texts.levels(x, 1, 0, 0, 0);
         Due.due("38 a SONG, as it was", x, x.songHeard(0, 4), 0, 0);
     }
 }
