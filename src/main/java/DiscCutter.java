@@ -583,6 +583,12 @@ public final class DiscCutter {
         return number >= least && number <= greatest;
     }
 
+    private static void clear(boolean[] row) {
+        for (int k = 0; k < row.length; k++) {
+            row[k] = false;
+        }
+    }
+
     private boolean isTray(int tray) {
         return within(tray, 0, TRAYS - 1);
     }
@@ -957,7 +963,7 @@ public final class DiscCutter {
             known[1] = 0;
             head = 0;
             waiting = 0;
-            Arrays.fill(waits, false);
+            clear(waits);
             int longest = Math.max(rows[0].count, rows[1].count);
             for (int part = 0; part < longest; part++) {
                 for (int row = 0; row < SIDES; row++) {
@@ -1301,7 +1307,7 @@ public final class DiscCutter {
 
         /** The PART at a tick, or NONE behind the END; the SIDE must be settled. */
         int follow(Side side, Songs songs, int tick) {
-            Arrays.fill(seen, false);
+            clear(seen);
             int ringPlace = side.ringPlace(songs, side.lockedBy);
             int part = 0;
             int from = 0;

@@ -10,6 +10,8 @@ public final class BesideEdgesTest {
         justSo();
         oneThatCannotBe();
         pulledUpFromTheOther();
+        liftedLate();
+        againBehindOneThatCannotBe();
         longest();
         greatestOfBoth();
         ringsAreNotLaid();
@@ -178,6 +180,59 @@ public final class BesideEdgesTest {
         row("40 SIDE 0, FEED 9", x, 0, 0, 0, 0, 0, 0, 0, 0, 0, 6, 15);
     }
 
+    /** "that of each next one not less": also behind a loud PART that a later one lifts. */
+    private static void liftedLate() {
+        DiscCutter x = new DiscCutter();
+        Bench.song(x, 0, 0, 0, 0, 0, 0, 0, 10, 0);
+        Bench.song(x, 0, 28);
+        x.rules(1, 5);
+        x.lead(0, 8);
+        x.lay(1, 0);
+        row("40 SIDE 1, 8 PARTS beside it", x, 1, 1, 1, 1, 1, 1, 6, 11, 11);
+        x.lay(0, 1);
+        row("40 SIDE 0", x, 0, 0, 0, 0, 5, 10, 15, 20, 25, 30);
+        row("40 SIDE 1, the last one not less", x, 1, 1, 6, 11, 16, 21, 26, 31, 31);
+        x.soften(1, 9);
+        row("40 SIDE 1, a softer one", x, 1, 1, 5, 10, 15, 20, 25, 30, 30);
+        x.anew(0);
+        x.anew(1);
+        Bench.song(x, 0, 29);
+        x.lead(0, 8);
+        x.lay(1, 0);
+        x.lay(0, 2);
+        cannot("40 a louder one", x);
+    }
+
+    /** "LEAST PLACES likewise": nothing is left of PLACES that could not be. */
+    private static void againBehindOneThatCannotBe() {
+        DiscCutter y = new DiscCutter();
+        y.lay(0, Bench.song(y, 0, 0, 0, 0, 0, 0, 0, 18, 0, 0));
+        y.lay(1, Bench.song(y, 0, 36, 33, 5, 0, 0));
+        y.rules(3, 2);
+        cannot("40 75 is above 16", y);
+        y.rules(3, 20);
+        row("40 SIDE 0, FEED 20", y, 0, 0, 0, 0, 0, 0, 18, 38, 58, 78);
+        row("40 SIDE 1, FEED 20", y, 1, 39, 39, 39, 39, 39);
+        Due.due("41 FEED 20", y, y.roomBeside(), 78, 0);
+        DiscCutter x = new DiscCutter();
+        Bench.flat(x, 0, 60, 40);
+        Bench.song(x, 0, 3);
+        for (int turn = 1; turn < 4; turn++) {
+            for (int side = 0; side < 2; side++) {
+                x.anew(0);
+                x.anew(1);
+                x.rules(4, 2);
+                x.lay(side, 0);
+                Bench.silent(x, 1 - side, 8 * turn + 1);
+                Due.due("41 it CAN'T be", x, x.roomBeside(), -1, 5);
+                x.rules(4, 8);
+                x.anew(side);
+                x.lay(side, 1);
+                Due.due("41 SIDE " + side + " of one PART", x, x.roomBeside(), side == 0 ? 7 + 4 * turn : 10 + 4 * turn, 0);
+            }
+        }
+    }
+
     /** The greatest of all: twice 400 PARTS, just so. */
     private static void longest() {
         DiscCutter x = new DiscCutter();
@@ -258,6 +313,15 @@ public final class BesideEdgesTest {
         row("40 SIDE 1 is softer", x, 1, 11);
         x.rules(9, 8);
         row("40 more LAND", x, 1, 16);
+        x.soften(0, 2);
+        x.rules(8, 8);
+        row("40 SIDE 0 is softer, and less LAND", x, 1, 13);
+        x.soften(1, 1);
+        x.rules(7, 8);
+        row("40 SIDE 1 is softer, and less LAND", x, 1, 10);
+        x.soften(0, 0);
+        x.soften(1, 0);
+        row("40 both are softer", x, 1, 7);
         x.anew(0);
         row("40 SIDE 0 is empty", x, 1, 0);
         x.press();

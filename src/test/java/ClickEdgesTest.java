@@ -222,6 +222,10 @@ public final class ClickEdgesTest {
         Due.due("32 a TURN is left out", x, x.cover(), 2, 0);
         x.click(99, 0);
         Due.due("32 TURNS do not go round", x, x.cover(), 3, 0);
+        for (int part = 2; part < 7; part++) {
+            Due.due("32 a SLANT of " + part, with(at(4, 0), at(5, part)).cover(), 2);
+            Due.due("32 a SLANT of -" + part, with(at(4, part), at(5, 0)).cover(), 2);
+        }
     }
 
     /** "round by 8": one LINE over PART 0. */

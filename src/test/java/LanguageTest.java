@@ -131,6 +131,8 @@ public final class LanguageTest {
             same(library.group(), library.group(2).matches("compare|max|min|abs|bitCount|floorDiv|floorMod"
                 + "|numberOfTrailingZeros|arraycopy|fill|copyOf|copyOfRange|MAX_VALUE|MIN_VALUE"), true);
         }
+        Due.due("Arrays.fill over numbers alone",
+            Pattern.compile("Arrays\\.fill\\([^;]*(true|false|null)\\)").matcher(code).find(), false);
         Matcher method = Pattern.compile("(?m)^( +)[\\w\\[\\] ]+\\([^;{}]*\\) \\{\n(?s:.*?)^\\1\\}").matcher(code);
         int methods = 0;
         while (method.find()) {

@@ -301,6 +301,15 @@ public final class NeedleEdgesTest {
         x.knock(38, 400);
         heard("37 nothing lies further in", x, 39, 39);
         x.still();
+        x.knock(0, -400);
+        heard("37 nothing lies further out than PART 0", x, 1, 1);
+        x.still();
+        x.knock(32, 400);
+        heard("37 nothing lies further in than the last TURN", x, 33, 33);
+        x.still();
+        x.knock(16, -400);
+        heard("37 from the first eighth", x, 17, 1);
+        x.still();
         x.knock(16, 4);
         x.knock(17, -4);
         heard("37 too soft a push", x, 17, 17);
@@ -332,6 +341,12 @@ public final class NeedleEdgesTest {
             x.knock(16, pushes[k]);
             heard("37 half way by " + pushes[k], x, 17, 16 + 8 * turns[k] + 1);
         }
+        x.still();
+        x.knock(8, -5);
+        heard("37 half way to the first", x, 9, 1);
+        x.still();
+        x.knock(24, 5);
+        heard("37 half way to the last", x, 25, 25);
     }
 
     /** "at tick 0 it is in PART 0"; "(at the KNOCK's own tick it is in p)". */

@@ -1,3 +1,4 @@
+import java.lang.reflect.Method;
 import java.util.Random;
 
 /** Long random runs of calls, each answer and STATUS asked of the naive cutter, too. */
@@ -7,6 +8,12 @@ public final class OracleTest {
         "order", "sideOf", "songAt", "press", "ring", "inTime", "click", "clean", "longest", "line", "cover",
         "lock", "locked", "knock", "still", "heard", "songHeard", "missed", "placeBeside", "roomBeside",
         "feed", "sheet", "fault", "run", "error", "mark"};
+
+    /** The numbers at the ends of an int, and those where a sign or a first one is. */
+    private static final int[] ENDS = {Integer.MIN_VALUE, Integer.MIN_VALUE + 1, -1, 0, 1, 2,
+        Integer.MAX_VALUE - 1, Integer.MAX_VALUE};
+
+    private static final int CALLS_OF_ONE = 100;
 
     private final Random random;
     private final DiscCutter real = new DiscCutter();
@@ -22,6 +29,9 @@ public final class OracleTest {
         int runs = args.length > 0 ? Integer.parseInt(args[0]) : 240;
         for (int k = 0; k < runs && Due.wrong() < 20; k++) {
             new OracleTest(k).play();
+        }
+        for (String name : ALL) {
+            playEnds(name);
         }
         Due.end();
     }
@@ -84,6 +94,48 @@ public final class OracleTest {
                     break;
             }
         }
+    }
+
+    /** A call with all numbers of ENDS in all its places, on objects that have something of all. */
+    private static void playEnds(String name) {
+        int arity = arityOf(name);
+        int all = 1;
+        for (int k = 0; k < arity; k++) {
+            all *= ENDS.length;
+        }
+        OracleTest test = null;
+        for (int k = 0; k < all; k++) {
+            if (k % CALLS_OF_ONE == 0) {
+                test = new OracleTest(k);
+                test.makeAll();
+            }
+            long[] v = new long[arity];
+            int rest = k;
+            for (int i = 0; i < arity; i++) {
+                v[i] = ENDS[rest % ENDS.length];
+                rest /= ENDS.length;
+            }
+            test.ask(name, v);
+        }
+    }
+
+    private static int arityOf(String name) {
+        for (Method m : DiscCutter.class.getMethods()) {
+            if (m.getName().equals(name)) {
+                return m.getParameterCount();
+            }
+        }
+        throw new IllegalArgumentException(name);
+    }
+
+    private void makeAll() {
+        makeSong();
+        makeSong();
+        ask("tray", 1, upTo(3), upTo(60));
+        makeClicks();
+        makeSheet();
+        makeSides();
+        makeKnocks();
     }
 
     private void makeSong() {

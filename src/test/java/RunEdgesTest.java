@@ -31,6 +31,7 @@ public final class RunEdgesTest {
         theFirstStepThatHasOne();
         theLeastKind();
         allAsItWas();
+        placesAsTheyWere();
         marksAsTheyWere();
         whatARunLeaves();
         errorAheadOfAny();
@@ -245,6 +246,8 @@ public final class RunEdgesTest {
         Texts.runs(x, "side 1;mark a;side 0;when have a{lead 1;}else{lead 2;}", 1);
         Texts.runs(x, "again 2{when have a{lead 1;}else{lead 2;}mark a;}", 3);
         Due.due("45 no MARK is made at first", x, x.run(), 3, 0);
+        Texts.runs(x, "mark a;when have a{when have a{when have a{lead 1;when have a{}}}}", 1);
+        Texts.runs(x, "when have a{}else{when have a{}else{when have a{}else{lead 2;when have a{}}}}", 2);
     }
 
     // ---- ERRORS
@@ -425,6 +428,27 @@ public final class RunEdgesTest {
         Bench.silent(x, 1, 400);
         Due.due("45 once more", x, x.run(), -1, 10);
         Due.due("45 full as it was", x, x.parts(1), 400, 0);
+    }
+
+    /** "All is as it was": also PLACES, when RUN has asked for those of its own. */
+    private static void placesAsTheyWere() {
+        DiscCutter x = Texts.withSongs();
+        Bench.silent(x, 0, 17);
+        Bench.silent(x, 1, 9);
+        Due.due("15 ahead of RUN", x, x.place(0, 16), 8, 0);
+        Texts.fails(x, "song 2;when room<9999{|song 9;}", 1);
+        Due.due("15 as it was", x, x.place(0, 16), 8, 0);
+        Due.due("15 as it was", x, x.place(0, 8), 4, 0);
+        Due.due("40 as it was", x, x.placeBeside(0, 16), 16, 0);
+        Texts.fails(x, "side 1;song 2;when room<9999{side 0;|lock 0;}", 5);
+        Due.due("16 as it was", x, x.room(1), 4, 0);
+        Due.due("41 as it was", x, x.roomBeside(), 16, 0);
+        x.rules(9, 1);
+        Texts.fails(x, "lead 9;|when room<9{}", 4);
+        x.anew(0);
+        x.lead(0, 8);
+        Texts.fails(x, "lead 9;|when room<9{}", 4);
+        Due.due("15 it CAN be cut, as it could", x, x.place(0, 7), 0, 0);
     }
 
     /** "also MARKS". */

@@ -394,6 +394,11 @@ public final class SheetEdgesTest {
         Due.due("44 each SHEET has its own", x, Bench.sheet(x, "mark i;"), 1, 0);
         Bench.sheet(x, EIGHT + "mark i;");
         Due.due("44 each SHEET has its own", x, Bench.sheet(x, EIGHT.replace("mark a", "mark k")), 8, 0);
+        for (int k = 0; k < 4; k++) {
+            Due.due("44 eight NAMES", x, Bench.sheet(x, EIGHT), 8, 0);
+            Due.due("44 eight others, elsewhere", x, Bench.sheet(x, " " + EIGHT.replace(" ", "  x")), 8, 0);
+            Due.due("44 a ninth one, elsewhere", x, Bench.sheet(x, "lead 9;" + EIGHT + " mark i;"), -1, 9);
+        }
     }
 
     /** A NUMBER of a STEP or an OPTION: the least and the greatest, and the first ones beyond them. */

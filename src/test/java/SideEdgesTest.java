@@ -31,6 +31,7 @@ public final class SideEdgesTest {
         softerOfNone();
         softerNone();
         softenOf0To40();
+        softenWhatIsThere();
         softenNotTheRing();
         Due.end();
     }
@@ -346,6 +347,13 @@ public final class SideEdgesTest {
         x.anew(0);
         x.lay(0, 0);
         Due.due("15 anew", x, x.place(0, 8), 16, 0);
+        x.soften(0, 1);
+        x.rules(7, 8);
+        Due.due("15 softer, and more LAND", x, x.place(0, 8), 9, 0);
+        x.rules(8, 8);
+        x.rules(9, 8);
+        x.soften(0, 0);
+        Due.due("15 more LAND twice, and softer", x, x.place(0, 8), 9, 0);
     }
 
     // ---- 16
@@ -565,6 +573,22 @@ public final class SideEdgesTest {
         Due.due("20 what is laid later", x, x.level(0, 5), 40, 0);
         x.anew(0);
         Due.due("20 of an empty one", x, x.soften(0, 0), 0, 0);
+    }
+
+    /** "how many were": of the PARTS that there are, not of those that were there. */
+    private static void softenWhatIsThere() {
+        DiscCutter x = new DiscCutter();
+        Bench.flat(x, 0, 60, 40);
+        x.lay(0, 0);
+        x.anew(0);
+        x.lead(0, 5);
+        Due.due("20 five silent ones", x, x.soften(0, 0), 0, 0);
+        x.lay(0, 0);
+        Due.due("20 60 loud ones", x, x.soften(0, 39), 60, 0);
+        Bench.silent(x, 1, 340);
+        x.lay(1, 0);
+        Due.due("20 of a full one", x, x.soften(1, 39), 60, 0);
+        Due.due("20 of a full one, the last", x, x.level(1, 399), 39, 0);
     }
 
     /** "(not of its RING)". */
