@@ -302,8 +302,22 @@ public final class RefusedTest {
             refused("10 no such SIDE", 1, x -> of(x.anew(side)));
             refused("11 no such SIDE", 1, x -> of(x.lead(side, 1)));
             refused("12 no such SIDE", 1, x -> of(x.lay(side, 0)));
+            refused("13 no such SIDE", 1, x -> x.parts(side));
+            refused("14 no such SIDE", 1, x -> x.level(side, 0));
+            refused("15 no such SIDE", 1, x -> x.place(side, 0));
+            refused("16 no such SIDE", 1, x -> x.room(side));
+            refused("17 no such SIDE", 1, x -> x.tight(side, 0));
+            refused("18 no such SIDE", 1, x -> x.cannot(side));
+            refused("19 no such SIDE", 1, x -> x.softer(side));
             refused("20 no such SIDE", 1, x -> x.soften(side, 0));
+            refused("24 no such SIDE", 1, x -> x.songAt(side, 0));
+            refused("26 no such SIDE", 1, x -> x.ring(side, 0));
             refused("33 no such SIDE", 1, x -> of(x.lock(side, 0)));
+            refused("34 no such SIDE", 1, x -> x.locked(side));
+            refused("37 no such SIDE", 1, x -> x.heard(side, 0));
+            refused("38 no such SIDE", 1, x -> x.songHeard(side, 0));
+            refused("39 no such SIDE", 1, x -> x.missed(side));
+            refused("40 no such SIDE", 1, x -> x.placeBeside(side, 0));
         }
         refused("11 many", 1, x -> of(x.lead(1, 0)));
         refused("11 many", 1, x -> of(x.lead(1, 101)));
@@ -312,7 +326,6 @@ public final class RefusedTest {
         refused("12 no such SONG", 1, x -> of(x.lay(1, 3)));
         refused("12 LOCKED", 7, x -> of(x.lay(0, 0)));
         refused("12 one too many", 4, RefusedTest::fill, x -> of(x.lay(1, 0)));
-        refused("13 no such SIDE", 1, x -> x.parts(2));
         refused("14 no such PART", 1, x -> x.level(0, 18));
         refused("15 no such PART", 1, x -> x.place(0, 18));
         refused("15 it CAN'T be", 5, RefusedTest::makeImpossible, x -> x.place(0, 0));
@@ -340,10 +353,10 @@ public final class RefusedTest {
         refused("22 there is none", 5, crowd, x -> x.order());
         refused("23 no such SONG", 1, x -> x.sideOf(3));
         refused("23 there is none", 5, crowd, x -> x.sideOf(0));
-        refused("24 no such SIDE", 1, x -> x.songAt(2, 0));
         refused("24 there is none", 5, crowd, x -> x.songAt(0, 0));
         refused("24 no such one", 6, x -> x.songAt(0, 9));
         refused("25 there is none", 5, crowd, x -> of(x.press()));
+        refused("26 no such SONG", 1, x -> x.ring(0, 3));
         refused("26 too short a SONG", 1, x -> x.ring(0, 1));
         refused("26 it CAN'T be", 5, RefusedTest::makeImpossible, x -> x.ring(0, 0));
         refused("26 empty", 6, x -> x.anew(0), x -> x.ring(0, 0));
