@@ -913,7 +913,10 @@ public final class DiscCutter {
 
     /** LEAST PLACES of both SIDES on one face; PART p of row r is node r * SIDE_LENGTH + p. */
     private static final class Beside {
-        // far above what 800 nodes of five edges each have been seen to need
+        private static final int NODES = SIDES * SIDE_LENGTH;
+
+        // no way without a circle has more than NODES steps, and in the round of each step of
+        // such ways a node waits once at most: NODES times NODES is never reached
         private static final int MOST_LIFTS = 1000000;
 
         private final Side[] rows;
@@ -933,9 +936,9 @@ public final class DiscCutter {
             rows[0] = first;
             rows[1] = second;
             rules = itsRules;
-            places = new int[SIDES * SIDE_LENGTH];
-            queue = new int[SIDES * SIDE_LENGTH];
-            waits = new boolean[SIDES * SIDE_LENGTH];
+            places = new int[NODES];
+            queue = new int[NODES];
+            waits = new boolean[NODES];
             known = new int[SIDES];
             settledChanges = NONE;
         }
@@ -1044,14 +1047,14 @@ public final class DiscCutter {
         }
 
         private void enqueue(int node) {
-            queue[(head + waiting) % queue.length] = node;
+            queue[(head + waiting) % NODES] = node;
             waits[node] = true;
             waiting++;
         }
 
         private int dequeue() {
             int node = queue[head];
-            head = (head + 1) % queue.length;
+            head = (head + 1) % NODES;
             waits[node] = false;
             waiting--;
             return node;
@@ -1225,11 +1228,11 @@ public final class DiscCutter {
                     lines[k * SLANTS + s] = walk(k, 1, s - 1) | walk(k, -1, s - 1);
                 }
             }
-            return fewest((1 << count) - 1, 0, count);
+            return fewest(lines, (1 << count) - 1, 0, count);
         }
 
         /** The least of best and of the used ones with what the open CLICKS still need. */
-        private int fewest(int open, int used, int best) {
+        private static int fewest(int[] lines, int open, int used, int best) {
             if (open == 0) {
                 return Math.min(used, best);
             }
@@ -1239,16 +1242,16 @@ public final class DiscCutter {
             int click = Integer.numberOfTrailingZeros(open);
             int least = best;
             for (int s = 0; s < SLANTS; s++) {
-                if (!isVain(click * SLANTS, s, open)) {
+                if (!isVain(lines, click * SLANTS, s, open)) {
                     int left = open & ~lines[click * SLANTS + s];
-                    least = fewest(left, used + 1, least);
+                    least = fewest(lines, left, used + 1, least);
                 }
             }
             return least;
         }
 
         /** A CLICK's line is vain, if it has nothing open that another one of that CLICK has not. */
-        private boolean isVain(int base, int s, int open) {
+        private static boolean isVain(int[] lines, int base, int s, int open) {
             int mine = lines[base + s] & open;
             for (int other = 0; other < SLANTS; other++) {
                 int its = lines[base + other] & open;
